@@ -586,6 +586,15 @@ final class PromisesTest {
         cellIs(right, 2, 9, 1);
         Check.due("to the right", 1, right.count(5));
 
+        SandcastleLeague last = withTeams(4);
+        tidesFrom(last, 0);
+        last.dig(3, 11, 9, 4);
+        last.pile(3, 10, 9, 1);
+        last.pass(1);
+        cellIs(last, 10, 9, 4);
+        cellIs(last, 11, 9, 1);
+        Check.due("to the last cell", 1, last.count(5));
+
         SandcastleLeague first = withTeams(1);
         tidesFrom(first, 0);
         first.dig(0, 0, 9, 4);
@@ -844,6 +853,13 @@ final class PromisesTest {
         Check.due("from behind", 10 + 8 + 12, lagoon.flood(9));
         Check.due("reach from behind", 9, lagoon.reach(1, 1));
         Check.due("reach from behind", 9, lagoon.reach(10, 1));
+        // The first cell of the row 1, closed at its three sides.
+        SandcastleLeague closed = withTeams(1);
+        fillBucket(closed, 0, 6);
+        closed.pile(0, 0, 0, 3);
+        closed.pile(0, 1, 1, 1);
+        closed.pile(0, 0, 2, 1);
+        Check.due("(0, 1) is closed", 11 + 10, closed.flood(7));
         for (int level : new int[] {-1, 31, MIN, MAX}) {
             Check.dueThrow("flood(" + level + ")", league, Check.IAE, () -> league.flood(level));
         }
