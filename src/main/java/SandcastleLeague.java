@@ -644,13 +644,11 @@ public final class SandcastleLeague {
         }
 
         int sandOfArea(int team) {
-            int all = 0;
-            for (int cell = 0; cell < CELLS; cell++) {
-                if (isInArea(team, cell)) {
-                    all += sand[cell];
-                }
-            }
-            return all;
+            return sumOfArea(sand, team);
+        }
+
+        int waterOfArea(int team) {
+            return sumOfArea(water, team);
         }
 
         int greatestHeightOfArea(int team) {
@@ -663,22 +661,12 @@ public final class SandcastleLeague {
             return greatest;
         }
 
-        int waterOfArea(int team) {
-            int all = 0;
-            for (int cell = 0; cell < CELLS; cell++) {
-                if (isInArea(team, cell)) {
-                    all += water[cell];
-                }
-            }
-            return all;
+        int allSand() {
+            return sum(sand);
         }
 
-        int allSand() {
-            int all = 0;
-            for (int cell = 0; cell < CELLS; cell++) {
-                all += sand[cell];
-            }
-            return all;
+        int allWater() {
+            return sum(water);
         }
 
         int allHeights() {
@@ -689,19 +677,29 @@ public final class SandcastleLeague {
             return all;
         }
 
-        int allWater() {
-            int all = 0;
-            for (int cell = 0; cell < CELLS; cell++) {
-                all += water[cell];
-            }
-            return all;
-        }
-
         int allSticks() {
             int all = 0;
             for (int cell = 0; cell < CELLS; cell++) {
                 if (hasStick(cell)) {
                     all++;
+                }
+            }
+            return all;
+        }
+
+        private static int sum(int[] numbers) {
+            int all = 0;
+            for (int number : numbers) {
+                all += number;
+            }
+            return all;
+        }
+
+        private static int sumOfArea(int[] numbers, int team) {
+            int all = 0;
+            for (int cell = 0; cell < CELLS && cell < numbers.length; cell++) {
+                if (isInArea(team, cell)) {
+                    all += numbers[cell];
                 }
             }
             return all;
