@@ -11,26 +11,41 @@ final class Check {
 
     private static int right;
     private static int wrong;
+    private static int sentences;
+    private static String place = "";
 
     private Check() {
     }
 
     static void due(String what, long want, long got) {
-        if (want == got) {
-            right++;
-        } else {
-            wrong++;
-            System.out.println(what + " answered " + got + ", due is " + want);
-        }
+        compared(want == got, what + " answered " + got + ", due is " + want);
     }
 
     static void dueDouble(String what, double want, double got) {
-        if (want == got) {
+        compared(want == got, what + " answered " + got + ", due is " + want);
+    }
+
+    private static void compared(boolean same, String difference) {
+        if (same) {
             right++;
         } else {
             wrong++;
-            System.out.println(what + " answered " + got + ", due is " + want);
+            System.out.println(place + difference);
         }
+    }
+
+    /** Tests one sentence of the document; each answer that is not due is told with it. */
+    static void sentence(String where, String words, Runnable test) {
+        int before = right + wrong;
+        place = where + ", \"" + words + "\": ";
+        try {
+            test.run();
+        } catch (RuntimeException e) {
+            compared(false, "the test ended with " + e);
+        }
+        compared(right + wrong > before, "the test compared nothing");
+        sentences++;
+        place = "";
     }
 
     /** The call must throw just this, and leave what the object tells as it was. */
@@ -61,7 +76,8 @@ final class Check {
     }
 
     static void finish(String name) {
-        System.out.println(name + ": " + right + " answers as due, " + wrong + " not");
+        String tested = sentences > 0 ? sentences + " sentences, " : "";
+        System.out.println(name + ": " + tested + right + " answers as due, " + wrong + " not");
         if (wrong > 0 || right == 0) {
             System.exit(1);
         }

@@ -1,9 +1,5 @@
 /** Each promise by itself, with answers worked out by hand from the document. */
-final class PromisesTest {
-    private static final int[] FIRST_TIDES = {2, 4, 7, 9, 10, 10, 9, 7, 5, 3, 2, 1};
-    private static final int MIN = Integer.MIN_VALUE;
-    private static final int MAX = Integer.MAX_VALUE;
-
+final class PromisesTest extends TestKit {
     private PromisesTest() {
     }
 
@@ -39,50 +35,6 @@ final class PromisesTest {
         mean();
         digest();
         Check.finish("PromisesTest");
-    }
-
-    // ---- helpers
-
-    private static SandcastleLeague withTeams(int teams) {
-        SandcastleLeague league = new SandcastleLeague();
-        for (int t = 0; t < teams; t++) {
-            league.addTeam();
-        }
-        return league;
-    }
-
-    /** Fills the bucket of the team from its columns' row 5, and on from the row 6. */
-    private static void fillBucket(SandcastleLeague league, int team, int sand) {
-        int cell = 0;
-        while (league.team(team, 0) < sand) {
-            int n = Math.min(4, sand - league.team(team, 0));
-            league.dig(team, 3 * team + cell % 3, 5 + cell / 3, n);
-            cell++;
-        }
-    }
-
-    private static void tidesFrom(SandcastleLeague league, int... levels) {
-        for (int h = 0; h < 12; h++) {
-            league.setTide(h, h < levels.length ? levels[h] : 0);
-        }
-    }
-
-    private static void counts(String when, SandcastleLeague league, int... want) {
-        for (int what = 0; what < want.length; what++) {
-            Check.due(when + ": count(" + what + ")", want[what], league.count(what));
-        }
-    }
-
-    private static void cellIs(SandcastleLeague league, int x, int y, int... want) {
-        for (int what = 0; what < want.length; what++) {
-            Check.due("cell(" + x + ", " + y + ", " + what + ")", want[what], league.cell(x, y, what));
-        }
-    }
-
-    private static void teamIs(String when, SandcastleLeague league, int team, int... want) {
-        for (int what = 0; what < want.length; what++) {
-            Check.due(when + ": team(" + team + ", " + what + ")", want[what], league.team(team, what));
-        }
     }
 
     // ---- promise 1
@@ -809,12 +761,6 @@ final class PromisesTest {
         Check.dueThrow("leader(2) of two", two, Check.IOOBE, () -> two.leader(2));
     }
 
-    private static void leaders(SandcastleLeague league, int... want) {
-        for (int place = 0; place < want.length; place++) {
-            Check.due("leader(" + place + ")", want[place], league.leader(place));
-        }
-    }
-
     // ---- promise 14
 
     private static void flood() {
@@ -1056,28 +1002,5 @@ final class PromisesTest {
         Check.due("after a tide", digestOf(league, tides), league.digest());
         league.endRound();
         Check.due("after a round", digestOf(league, tides), league.digest());
-    }
-
-    private static long digestOf(SandcastleLeague league, int[] tides) {
-        long d = 503;
-        for (int what = 0; what <= 8; what++) {
-            d = d * 31 + league.count(what);
-        }
-        for (int level : tides) {
-            d = d * 31 + level;
-        }
-        for (int t = 0; t < league.count(1); t++) {
-            for (int what = 0; what <= 7; what++) {
-                d = d * 31 + league.team(t, what);
-            }
-        }
-        for (int y = 0; y < 10; y++) {
-            for (int x = 0; x < 12; x++) {
-                for (int what = 0; what <= 5; what++) {
-                    d = d * 31 + league.cell(x, y, what);
-                }
-            }
-        }
-        return d;
     }
 }
