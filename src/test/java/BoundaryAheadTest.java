@@ -219,6 +219,12 @@ final class BoundaryAheadTest extends TestKit {
             Check.due("sticks in " + hours, want[hours - 1], league.foresee(hours, 0, 1));
             Check.due("sticks of the other team in " + hours, wantOther[hours - 1], league.foresee(hours, 1, 1));
         }
+        for (int lower = 1; lower <= 2; lower++) {
+            SandcastleLeague dug = dry(1);
+            dug.plant(0, 0, 9);
+            dug.dig(0, 0, 9, lower);
+            Check.due("sticks on a cell " + lower + " lower", 2 - lower, dug.foresee(1, 0, 1));
+        }
     }
 
     private static void sandForeseen() {
@@ -404,6 +410,17 @@ final class BoundaryAheadTest extends TestKit {
         Check.due("both bring 2 points", 26, league.advise(0, 1));
         league.dig(0, 2, 2, 2);
         Check.due("1 point and 2 points", 73, league.advise(0, 1));
+
+        // What other sticks bring, and have brought, is no matter.
+        SandcastleLeague others = dry(4);
+        for (int t = 0; t < 4; t++) {
+            others.plant(t, 3 * t, 9);
+        }
+        others.pass(9);
+        others.dig(0, 2, 9, 1);
+        others.pile(0, 1, 6, 1);
+        Check.due("beside sticks that stand", 73, others.advise(0, 1));
+        Check.due("beside sticks that stand", 3, others.advise(1, 12));
     }
 
     private static void inSoManyHours() {
@@ -489,6 +506,12 @@ final class BoundaryAheadTest extends TestKit {
         }
         passAt(league, 0);
         Check.due("all is dry", 0, league.advise(0, 1));
+
+        SandcastleLeague lost = dry(1);
+        lost.setTide(0, 30);
+        // Wherever it were planted, it would fall: all cells bring the same, and the first is told.
+        Check.due("all bring 0 points", 0, lost.advise(0, 1));
+        Check.due("all bring 0 points", 0, lost.advise(0, 12));
 
         SandcastleLeague three = dry(1);
         passAt(three, 22);

@@ -177,8 +177,27 @@ final class BoundaryTermsTest extends TestKit {
         cellIs(back, 1, 8, 6);
         cellIs(back, 1, 9, 1);
 
+        firstAndLastCells();
         notOverCorners();
         notOverEdges();
+    }
+
+    private static void firstAndLastCells() {
+        int[][] ways = {{0, 1, 0}, {1, 0, 0}, {10, 11, 0}, {11, 10, 0}, {0, 1, 9}, {1, 0, 9}, {10, 11, 9}, {11, 10, 9}};
+        for (int[] way : ways) {
+            SandcastleLeague league = dry(4);
+            int team = way[0] / 3;
+            league.dig(team, way[1], way[2], 4);
+            if (way[2] == 0) {
+                // So that nothing comes from behind.
+                league.dig(team, way[1], 1, 2);
+            }
+            league.pile(team, way[0], way[2], 1);
+            league.pass(1);
+            Check.due("slides in the row " + way[2], 1, league.count(5));
+            cellIs(league, way[0], way[2], 4);
+            cellIs(league, way[1], way[2], 1);
+        }
     }
 
     private static void notOverCorners() {
@@ -503,6 +522,20 @@ final class BoundaryTermsTest extends TestKit {
             waterIs(canal, 11, 47 + 5, new int[] {x, 4, 1}, new int[] {1, 5, 1}, new int[] {1, 4, 0},
                 new int[] {2 - x, 5, 1}, new int[] {2 - x, 4, 1}, new int[] {2 - x, 3, 0});
         }
+        for (int x : new int[] {10, 11}) {
+            SandcastleLeague last = withTeams(4);
+            last.dig(3, x, 4, 4);
+            last.dig(3, x, 5, 4);
+            last.dig(3, 21 - x, 5, 4);
+            waterIs(last, 11, 51, new int[] {x, 5, 1}, new int[] {21 - x, 5, 1}, new int[] {21 - x, 4, 0});
+        }
+        // At 6 in the row 1, with 7 and 9 all round.
+        SandcastleLeague closed = withTeams(1);
+        fillBucket(closed, 0, 6);
+        closed.pile(0, 0, 0, 3);
+        closed.pile(0, 1, 1, 1);
+        closed.pile(0, 0, 2, 1);
+        waterIs(closed, 7, 21, new int[] {0, 0, 0}, new int[] {0, 1, 0}, new int[] {1, 1, 0}, new int[] {2, 1, 1});
         waterAtTheEdges();
     }
 
