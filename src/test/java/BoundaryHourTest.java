@@ -43,6 +43,8 @@ final class BoundaryHourTest extends TestKit {
         league.dig(0, 0, 1, 4);
         league.dig(0, 1, 9, 4);
         league.pile(0, 1, 0, 5);
+        league.dig(0, 2, 0, 1);
+        league.pack(0, 2, 0);
         league.flood(30);
         league.reach(0, 9);
         league.foresee(1, 0, 2);
@@ -68,6 +70,7 @@ final class BoundaryHourTest extends TestKit {
             BoundaryHourTest::lossByDepth);
         Check.sentence("Terms, an hour (promise 11)", "less half its firmness (cut)",
             BoundaryHourTest::lossByFirmness);
+        Check.sentence("Terms (promise 11)", "/ is cut towards 0", BoundaryHourTest::cutTowardsZero);
         Check.sentence("Terms, an hour (promise 11)", "but at least 0", BoundaryHourTest::lossAtLeast);
         Check.sentence("Terms, an hour (promise 11)", "and at most all", BoundaryHourTest::lossAtMost);
         Check.sentence("Terms, an hour (promise 11)", "then its firmness is 1 less, if it is greater than 0",
@@ -122,6 +125,25 @@ final class BoundaryHourTest extends TestKit {
             Check.due("lost at the depth 9 with the firmness " + firmness, 4 - half[firmness],
                 lossOf(21, 12, firmness));
         }
+    }
+
+    /** Each part by itself: 5 / 3 less 1 / 2 are 1 and 0, though 10 / 6 less 3 / 6 would be 1 and a bit. */
+    private static void cutTowardsZero() {
+        Check.due("lost at the depth 5 with the firmness 1", 2, lossOf(17, 12, 1));
+        Check.due("lost at the depth 5 with the firmness 3", 1, lossOf(17, 12, 3));
+        Check.due("lost at the depth 2 with the firmness 3", 0, lossOf(14, 12, 3));
+        Check.due("lost at the depth 7 with the firmness 5", 1, lossOf(19, 12, 5));
+        SandcastleLeague league = dry(1);
+        league.dig(0, 1, 0, 2);
+        league.dig(0, 2, 0, 2);
+        league.dig(0, 1, 1, 1);
+        pile(league, 0, 1, 9, 5);
+        pack(league, 0, 1, 9, 5);
+        league.plant(0, 1, 9);
+        league.plant(0, 0, 9);
+        league.pass(1);
+        // 9 / 5 and 4 / 5, not 13 / 5.
+        Check.due("points", 1 + 1 + 1 + 0, league.team(0, 2));
     }
 
     private static void lossAtLeast() {
@@ -210,6 +232,7 @@ final class BoundaryHourTest extends TestKit {
     private static void slides() {
         Check.sentence("Terms, an hour (promise 11)", "Slides, round by round, until there is none in a round",
             BoundaryHourTest::slidesUntilNone);
+        Check.sentence("Terms, an hour (promise 11)", "but at most 40 rounds", BoundaryHourTest::manyRounds);
         Check.sentence("Terms, an hour (promise 11)", "in each the cells are gone through in ascending order",
             BoundaryHourTest::ascendingOrder);
         Check.sentence("Terms, an hour (promise 11)", "a cell slides, if it has sand",
@@ -241,6 +264,46 @@ final class BoundaryHourTest extends TestKit {
         cellIs(league, 1, 1, 4);
         league.pass(1);
         Check.due("slides an hour later", 0, league.count(5));
+    }
+
+    /**
+     * No run is known that comes to 40 rounds: the longest search over all beaches of 480 sand found 31.
+     * This one, of 23 rounds, must not be cut off.
+     */
+    private static void manyRounds() {
+        SandcastleLeague league = dry(4);
+        int[][] dug = {{11, 2, 3}, {10, 6, 4}, {10, 7, 2}, {11, 6, 4}, {9, 4, 4}, {9, 6, 4}, {9, 2, 4}, {9, 5, 4},
+            {11, 5, 4}, {9, 7, 2}, {11, 4, 4}};
+        for (int[] at : dug) {
+            league.dig(3, at[0], at[1], at[2]);
+        }
+        pack(league, 3, 10, 8, 3);
+        pile(league, 3, 11, 9, 1);
+        pile(league, 3, 10, 9, 3);
+        league.dig(3, 10, 4, 4);
+        league.pass(1);
+        Check.due("slides in 1 round", 5, league.count(5));
+        // A castle in the last corner of the beach, up to 38, with hollows in front of it.
+        pile(league, 3, 11, 8, 4);
+        pile(league, 3, 10, 9, 14);
+        pile(league, 3, 11, 8, 10);
+        league.dig(2, 8, 9, 3);
+        pack(league, 3, 10, 8, 1);
+        pack(league, 3, 10, 9, 2);
+        league.dig(3, 11, 7, 3);
+        league.dig(3, 11, 6, 1);
+        pile(league, 3, 11, 8, 2);
+        pack(league, 3, 10, 8, 1);
+        league.dig(3, 10, 7, 2);
+        pack(league, 3, 10, 9, 1);
+        pile(league, 3, 11, 9, 15);
+        cellIs(league, 10, 9, 20, 3, 38);
+        cellIs(league, 11, 9, 20, 0, 38);
+        cellIs(league, 11, 8, 20, 0, 36);
+        league.pass(1);
+        Check.due("slides in 23 rounds", 59, league.count(5));
+        league.pass(1);
+        Check.due("slides after them", 0, league.count(5));
     }
 
     /** (0, 8) and (2, 8) at 21, and (1, 8) at 16 between them. */

@@ -54,11 +54,10 @@ final class BoundaryTermsTest extends TestKit {
         for (int t = 0; t < 4; t++) {
             for (int x = 3 * t; x <= 3 * t + 2; x++) {
                 league.dig(t, x, 9, 4);
-                league.dig(t, x, 8, 4);
             }
         }
-        // The land side is at the heights 16 and 18 now: no water comes from there.
-        Check.due("flood(17)", 7 * 12, league.flood(17));
+        // The row 9 is at 18 now, behind the row 8 at 20: no water comes from the land.
+        Check.due("flood(19)", 8 * 12, league.flood(19));
         passAt(league, 5);
         Check.due("under water at level 5", 12, league.count(2));
         for (int x = 0; x < 12; x++) {

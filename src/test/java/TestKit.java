@@ -47,11 +47,9 @@ abstract class TestKit {
 
     /** Fills the bucket of the team from its columns' row 5, and on from the row 6. */
     static void fillBucket(SandcastleLeague league, int team, int sand) {
-        int cell = 0;
-        while (league.team(team, 0) < sand) {
+        for (int cell = 0; cell < 15 && league.team(team, 0) < sand; cell++) {
             int n = Math.min(4, sand - league.team(team, 0));
             league.dig(team, 3 * team + cell % 3, 5 + cell / 3, n);
-            cell++;
         }
     }
 
@@ -77,7 +75,7 @@ abstract class TestKit {
 
     /** Packs the first cell of the team until so much of its strength is left. */
     static void tire(SandcastleLeague league, int team, int left) {
-        while (league.team(team, 1) > left) {
+        for (int deeds = 0; deeds < 20 && league.team(team, 1) > left; deeds++) {
             league.pack(team, 3 * team, 0);
         }
     }
