@@ -127,8 +127,9 @@ final class BoundaryHourTest extends TestKit {
         }
     }
 
-    /** Each part by itself: 5 / 3 less 1 / 2 are 1 and 0, though 10 / 6 less 3 / 6 would be 1 and a bit. */
+    /** Each quotient is cut by itself, not their sum. */
     private static void cutTowardsZero() {
+        Check.due("lost at the depth 4 with the firmness 1", 2, lossOf(16, 12, 1));
         Check.due("lost at the depth 5 with the firmness 1", 2, lossOf(17, 12, 1));
         Check.due("lost at the depth 5 with the firmness 3", 1, lossOf(17, 12, 3));
         Check.due("lost at the depth 2 with the firmness 3", 0, lossOf(14, 12, 3));
