@@ -39,7 +39,7 @@ final class FaceTest {
         Set<String> got = new TreeSet<>();
         for (Method method : SandcastleLeague.class.getDeclaredMethods()) {
             if (!Modifier.isPrivate(method.getModifiers())) {
-                Check.due(method + " is public", 1, Modifier.isPublic(method.getModifiers()) ? 1 : 0);
+                Check.due("modifiers of " + method, Modifier.PUBLIC, method.getModifiers());
                 got.add(faceOf(method));
             }
         }
@@ -52,6 +52,10 @@ final class FaceTest {
         }
         for (Field field : SandcastleLeague.class.getDeclaredFields()) {
             Check.due(field + " is private", 1, Modifier.isPrivate(field.getModifiers()) ? 1 : 0);
+        }
+        for (Class<?> inside : SandcastleLeague.class.getDeclaredClasses()) {
+            int seen = inside.getModifiers() & (Modifier.PUBLIC | Modifier.PROTECTED);
+            Check.due(inside + " is seen by none", 0, seen);
         }
         Check.finish("FaceTest");
     }
